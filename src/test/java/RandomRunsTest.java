@@ -77,6 +77,10 @@ public final class RandomRunsTest {
         }
         check("fault()", x.fault(), m.fault());
         check("lay()", x.lay(), m.lay());
+        if (random.nextInt(10) == 0) {
+            foresee("order");
+            foresee("need");
+        }
     }
 
     private String drawnText() {
@@ -172,6 +176,7 @@ public final class RandomRunsTest {
         int t = about(10);
         int z = about(9999);
         int d = 1 + about(59);
+        int w = about(2);
         switch (name) {
             case "seen" -> {
                 // mostly what will be so, that there be something to find
@@ -184,7 +189,7 @@ public final class RandomRunsTest {
             case "days" -> check("days(" + p + ", " + bit + ")", x.days(p, bit), m.days(p, bit));
             case "likely" -> check("likely(" + p + ", " + f + ", " + t + ", " + bit + ")",
                 x.likely(p, f, t, bit), m.likely(p, f, t, bit));
-            case "year" -> check("year(" + z + ", " + d + ", " + f + ")", x.year(z, d, f % 3), m.year(z, d, f % 3));
+            case "year" -> check("year(" + z + ", " + d + ", " + w + ")", x.year(z, d, w), m.year(z, d, w));
             case "keep" -> check("keep()", x.keep(), m.keep());
             case "back" -> check("back()", x.back(), m.back());
             default -> check("count(" + a + ")", x.count(a), m.count(a));
