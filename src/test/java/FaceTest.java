@@ -99,6 +99,11 @@ public final class FaceTest {
             if (!Modifier.isStatic(c.getModifiers()) || Modifier.isPublic(c.getModifiers())) {
                 fault("a class inside that is not static, or is public: " + c);
             }
+            for (Method m : c.getDeclaredMethods()) {
+                if (isOfTheFace(m.getName())) {
+                    fault("a class inside has a method with a public name: " + m);
+                }
+            }
             int fields = 0;
             for (Field f : c.getDeclaredFields()) {
                 fields += Modifier.isStatic(f.getModifiers()) ? 0 : 1;
@@ -107,6 +112,15 @@ public final class FaceTest {
                 fault("too many fields: " + c);
             }
         }
+    }
+
+    private static boolean isOfTheFace(String name) {
+        for (String of : FACE) {
+            if (of.split(" ")[0].equals(name)) {
+                return true;
+            }
+        }
+        return false;
     }
 
     private static void checkSource() throws Exception {
