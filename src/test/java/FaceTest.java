@@ -22,12 +22,18 @@ public final class FaceTest {
         "\\b(throw|throws|try|catch|synchronized|assert|import|package|protected|Exact|Object|Thread|Random|Scanner"
         + "|hashCode|toString|double|float)\\b|->|::";
 
+    private static final Set<String> LIBRARY = Set.of("Math.max(", "Math.min(", "Integer.bitCount(",
+        "System.arraycopy(", "FIRST_TEXT.length(", "FIRST_TEXT.charAt(");
+
     private static int wrong = 0;
 
     public static void main(String[] args) throws Exception {
         checkMembers();
         checkNestedClasses();
-        checkSource();
+        List<String> lines = codeLines();
+        checkWords(lines);
+        checkLibrary(lines);
+        checkLengths(lines);
         System.out.println(wrong == 0 ? "the face and the words are as due" : wrong + " faults");
         if (wrong != 0) {
             System.exit(1);
@@ -123,19 +129,62 @@ public final class FaceTest {
         return false;
     }
 
-    private static void checkSource() throws Exception {
+    /** The source without its comments. */
+    private static List<String> codeLines() throws Exception {
         List<String> lines = new ArrayList<>();
         for (String line : Files.readAllLines(Path.of("src/main/java/NewsHampers.java"))) {
             int comment = line.indexOf("//");
             String code = comment >= 0 ? line.substring(0, comment) : line;
             lines.add(code.trim().startsWith("*") || code.trim().startsWith("/*") ? "" : code);
         }
+        return lines;
+    }
+
+    private static void checkWords(List<String> lines) {
         Pattern banned = Pattern.compile(BANNED);
         for (int i = 0; i < lines.size(); i++) {
             Matcher m = banned.matcher(lines.get(i));
             if (m.find()) {
                 fault("line " + (i + 1) + " has " + m.group());
             }
+        }
+    }
+
+    /** Whatever is called on a name that begins with a capital is the library's, or a constant text's. */
+    private static void checkLibrary(List<String> lines) {
+        Pattern call = Pattern.compile("\\b[A-Z]\\w*\\.\\w+\\(");
+        for (int i = 0; i < lines.size(); i++) {
+            Matcher m = call.matcher(lines.get(i));
+            while (m.find()) {
+                if (!LIBRARY.contains(m.group())) {
+                    fault("line " + (i + 1) + " calls " + m.group());
+                }
+            }
+        }
+    }
+
+    private static void checkLengths(List<String> lines) {
+        Pattern head = Pattern.compile("(    |        )[\\w].*\\) \\{");
+        int methods = 0;
+        for (int i = 0; i < lines.size(); i++) {
+            Matcher m = head.matcher(lines.get(i));
+            if (!m.matches()) {
+                continue;
+            }
+            methods++;
+            int end = i;
+            while (end < lines.size() && !lines.get(end).equals(m.group(1) + "}")) {
+                end++;
+            }
+            if (end - i >= 60) {
+                fault("line " + (i + 1) + " begins a method of " + (end - i + 1) + " lines");
+            }
+            if (lines.get(i).chars().filter(c -> c == ',').count() > 6) {
+                fault("line " + (i + 1) + " has too many parameters");
+            }
+        }
+        if (methods < FACE.length) {
+            fault("only " + methods + " methods were found");
         }
     }
 }
